@@ -108,5 +108,14 @@ public final class AllTest {
             0, 9, 3, 1, 0,
             'x',
             4, 9, 1, 1, 1, 0, 3, 1, 2, 1, 1, 1));
+        StiltYard bog = Check.yard("polb;9");
+        bog.step(1);
+        CHECK.due("on a bog", bog.digest(), Check.hash(
+            0, 1, 2, 3, 0, 6,
+            4, 3, 4, 5, 2, 4,
+            1, 2, 3, 4, 1, 5,
+            3, 2, 4, 6, 3, 5,
+            3, 9, 3, 1, 511,
+            4, 9, 1, 3, 1, 0, 3, 1, 0, 0, 1, 0));
     }
 }

@@ -96,6 +96,8 @@ public final class WouldBeTest {
         CHECK.due("bbbb;5", Check.yard("bbbb;5").high(), 6);
         CHECK.due("bbbbbb;5", Check.yard("bbbbbb;5").high(), 2);
         CHECK.due("bbbbbbb;5", Check.yard("bbbbbbb;5").high(), StiltYard.NONE);
+        // 5 to the bog and 6 from there
+        CHECK.due("bbbobbb;5", Check.yard("bbbobbb;5").high(), 1);
         StiltYard x = Check.yard("bbbbbbb;9");
         x.step(1);
         CHECK.due("from place 0, not from now", x.high(), StiltYard.NONE);
