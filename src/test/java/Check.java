@@ -1,17 +1,32 @@
+import java.util.function.ToIntFunction;
+
 /** What all tests share: comparing answers, and making objects with a yard. */
 final class Check {
     private final String name;
+    private String words = "";
     private int wrong = 0;
 
     Check(String name) {
         this.name = name;
     }
 
+    /** The sentence of the document by which the answers that follow are due; told when one is wrong. */
+    void sentence(String sentence) {
+        words = " [" + sentence + "]";
+    }
+
     void due(String call, long got, long want) {
         if (got != want) {
             wrong++;
-            System.out.println(name + ": " + call + " answered " + got + ", due is " + want);
+            System.out.println(name + words + ": " + call + " answered " + got + ", due is " + want);
         }
+    }
+
+    /** A call that is due to be refused, and to change nothing that can be seen. */
+    void refused(String call, StiltYard x, ToIntFunction<StiltYard> made, int want) {
+        long ahead = x.digest();
+        due(call, made.applyAsInt(x), want);
+        due("digest() behind the refused " + call, x.digest(), ahead);
     }
 
     /** Ends the machine with exit code 1 if an answer was wrong. */
@@ -28,6 +43,11 @@ final class Check {
         }
     }
 
+    /** So many times the same letter. */
+    static String times(int n, char letter) {
+        return String.valueOf(letter).repeat(n);
+    }
+
     static StiltYard page(String text) {
         StiltYard x = new StiltYard();
         write(x, text);
@@ -40,6 +60,17 @@ final class Check {
             throw new IllegalStateException("no yard: " + text);
         }
         return x;
+    }
+
+    /** By steps of 1, each with a rest behind it, to a place of plain ground. */
+    static void walk(StiltYard x, int place) {
+        for (int i = x.count(2); i < place; i++) {
+            x.step(1);
+            x.step(0);
+        }
+        if (x.count(2) != place) {
+            throw new IllegalStateException("he is not at place " + place);
+        }
     }
 
     /** What count() tells for 0 to 11, in order, against what is due. */
