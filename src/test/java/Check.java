@@ -2,12 +2,29 @@ import java.util.function.ToIntFunction;
 
 /** What all tests share: comparing answers, and making objects with a yard. */
 final class Check {
+    /** Far above what any test needs, some seconds. */
+    private static final long MOST_MILLISECONDS = 300_000;
+
     private final String name;
-    private String words = "";
+    private volatile String words = "";
     private int wrong = 0;
 
     Check(String name) {
         this.name = name;
+        Thread limit = new Thread(this::waitForTheEnd);
+        limit.setDaemon(true);
+        limit.start();
+    }
+
+    /** A call that never ends must fail the test, not hold up all the others. */
+    private void waitForTheEnd() {
+        try {
+            Thread.sleep(MOST_MILLISECONDS);
+        } catch (InterruptedException e) {
+            return;
+        }
+        System.out.println(name + words + ": does not end");
+        Runtime.getRuntime().halt(1);
     }
 
     /** The sentence of the document by which the answers that follow are due; told when one is wrong. */
